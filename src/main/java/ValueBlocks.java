@@ -64,7 +64,6 @@ public final class ValueBlocks {
   public int read() {
     tokens.split();
     tray.cut(0);
-    faultPlace = NO_PLACE;
     if (!reader.translate(spare)) {
       faultPlace = reader.faultPlace();
       return -1;

@@ -15,6 +15,7 @@ public final class ReadTest {
     orderOfFaults();
     aFaultLeavesTheText();
     placeIsOfTheLatestRead();
+    nothingIsLeftOfEarlierTexts();
     Checks.finish();
   }
 
@@ -274,5 +275,22 @@ public final class ReadTest {
     Checks.due("place of fault 2", x.place(), 5);
     x.read();
     Checks.due("place of no fault", x.place(), -1);
+  }
+
+  private static void nothingIsLeftOfEarlierTexts() {
+    ValueBlocks x = new ValueBlocks();
+    for (int i = 0; i < 5; i++) {
+      Checks.due("labels", Checks.read(x, "N1\nN2\nWHILE[1]DO1\nEND1\nGOTO 2"), 5);
+      Checks.due("no labels", Checks.read(x, "GOTO 2"), -2);
+      Checks.due("no loops", Checks.read(x, "\n\nEND 1"), -2);
+      Checks.due("other lines", Checks.read(x, "\n#1=1\n\n\n"), 4);
+      Checks.due("run", x.run(4), 0);
+    }
+    String sum = "1" + Checks.times(1500, "+1");
+    for (int i = 1; i <= 3; i++) {
+      Checks.due("long text", Checks.read(x, "#2=" + sum + "\n#3=#2+" + i), 2);
+      Checks.due("run", x.run(2), 0);
+      Checks.due("#3", x.variable(3), 1501000 + i * 1000);
+    }
   }
 }

@@ -15,6 +15,7 @@ public final class RunTest {
     variablePlaces();
     limits();
     deepSums();
+    nothingIsLeftOfAlarms();
     Checks.finish();
   }
 
@@ -332,5 +333,18 @@ public final class RunTest {
     Checks.worth("1+1*" + Checks.times(20, "[9GT1+1*") + "7" + end, 2000);
     Checks.worth("0+2*" + Checks.times(20, "[1+1*") + "7" + end, 54000);
     Checks.worth("1-2*" + Checks.times(10, "-[1+1*") + "7" + Checks.times(10, "]"), -13000);
+  }
+
+  private static void nothingIsLeftOfAlarms() {
+    ValueBlocks x = new ValueBlocks();
+    String start = Checks.times(19, "[1+1*");
+    String end = Checks.times(19, "]");
+    Checks.read(x, "#1=" + start + "[1/#2]" + end);
+    for (int i = 0; i < 50; i++) {
+      Checks.due("run", x.run(1), 1);
+    }
+    x.put(2, 1000);
+    Checks.due("run", x.run(1), 0);
+    Checks.due("#1", x.variable(1), 20000);
   }
 }

@@ -16,6 +16,7 @@ public final class ReadTest {
     aFaultLeavesTheText();
     placeIsOfTheLatestRead();
     nothingIsLeftOfEarlierTexts();
+    nothingIsLeftOfLongTexts();
     Checks.finish();
   }
 
@@ -277,20 +278,28 @@ public final class ReadTest {
     Checks.due("place of no fault", x.place(), -1);
   }
 
+  /** Texts and faults in turn, so that whatever keeps a text is used again for each kind. */
   private static void nothingIsLeftOfEarlierTexts() {
     ValueBlocks x = new ValueBlocks();
     for (int i = 0; i < 5; i++) {
       Checks.due("labels", Checks.read(x, "N1\nN2\nWHILE[1]DO1\nEND1\nGOTO 2"), 5);
-      Checks.due("no labels", Checks.read(x, "GOTO 2"), -2);
-      Checks.due("no loops", Checks.read(x, "\n\nEND 1"), -2);
+      Checks.due("no labels", Checks.read(x, "GOTO 1\n\n"), -2);
       Checks.due("other lines", Checks.read(x, "\n#1=1\n\n\n"), 4);
+      Checks.due("no labels", Checks.read(x, "GOTO 1\n\n"), -2);
+      Checks.due("no loops", Checks.read(x, "\n\nEND 1"), -2);
       Checks.due("run", x.run(4), 0);
     }
-    String sum = "1" + Checks.times(1500, "+1");
-    for (int i = 1; i <= 3; i++) {
-      Checks.due("long text", Checks.read(x, "#2=" + sum + "\n#3=#2+" + i), 2);
-      Checks.due("run", x.run(2), 0);
-      Checks.due("#3", x.variable(3), 1501000 + i * 1000);
-    }
+    Checks.due("labels", Checks.read(x, "N1\nN2"), 2);
+    Checks.due("other lines", Checks.read(x, "\n\n"), 2);
+    Checks.due("no labels, and no fault of theirs", Checks.read(x, "N2\nN1"), 2);
+  }
+
+  private static void nothingIsLeftOfLongTexts() {
+    String sum = "1" + Checks.times(2200, "+1");
+    ValueBlocks x = new ValueBlocks();
+    Checks.due("fault 2", Checks.read(x, "#2=" + sum + "\nGOTO 1"), -2);
+    Checks.due("long text", Checks.read(x, "#2=" + sum + "\n#3=#2+1"), 2);
+    Checks.due("run", x.run(2), 0);
+    Checks.due("#3", x.variable(3), 2202000);
   }
 }

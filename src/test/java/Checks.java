@@ -56,6 +56,15 @@ final class Checks {
     due("place of " + shown(text), x.place(), place);
   }
 
+  /** The fault's place, or -1: then the text has no fault, and as many lines as told. */
+  static void fault(String text, int kind, int place, int lines) {
+    if (place < 0) {
+      good(text, lines);
+    } else {
+      fault(text, kind, place);
+    }
+  }
+
   private static String shown(String text) {
     int last = text.length();
     String part = last <= 100 ? text : text.substring(0, 40) + " .. " + text.substring(last - 40);

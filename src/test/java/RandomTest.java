@@ -5,6 +5,9 @@ import java.util.Random;
 public final class RandomTest {
   private static final int OBJECTS = 6000;
   private static final int TEXTS = 4;
+  /** Most places are among these, and few others are asked for: an object holds for 512 calls. */
+  private static final int USED_VARIABLES = 12;
+  private static final int OTHER_VARIABLES = 60;
   private static final String[] JOINTS =
       {"+", "-", "*", "/", "MOD", "AND", "OR", "XOR", "+", "-", "*", "/"};
   private static final String[] COMPARISONS = {"EQ", "NE", "LT", "LE", "GT", "GE"};
@@ -65,6 +68,10 @@ public final class RandomTest {
         run(x, oracle, text);
       }
     }
+    for (int i = 0; i < OTHER_VARIABLES; i++) {
+      int n = USED_VARIABLES + 1 + below(199 - USED_VARIABLES);
+      Checks.due("#" + n, x.variable(n), oracle.variables[n].longValue());
+    }
   }
 
   private void putVariables(ValueBlocks x, Oracle oracle) {
@@ -85,7 +92,7 @@ public final class RandomTest {
     Checks.due("run(" + fuel + ") of:\n" + text, x.run(fuel), alarm);
     Checks.due("line of:\n" + text, x.line(), oracle.alarmLine);
     Checks.due("steps of:\n" + text, x.steps(), oracle.steps);
-    for (int n = 1; n <= 199; n++) {
+    for (int n = 1; n <= USED_VARIABLES; n++) {
       Checks.due("#" + n + " of:\n" + text, x.variable(n), oracle.variables[n].longValue());
     }
     if (alarm >= 0) {
